@@ -43,6 +43,7 @@ public final class ActsTest {
         alone("G200990", 9);
         alone("G100910", 1);
         alone("G100919", 2);
+        alone("G100911", 2);
         alone("G100950", 5);
         alone("G300910", 1);
         alone("G300930", 3);
@@ -117,6 +118,7 @@ public final class ActsTest {
     private static void joins() {
         LouderRoom x = Check.room("R00G000537G111414G222622G333333");
         CHECK.due(16, "joins(2, 0), more than 9", x.joins(2, 0), -4);
+        CHECK.due(16, "joins(2, 1), 10 together", x.joins(2, 1), -4);
         CHECK.due(16, "joins(0, 0)", x.joins(0, 0), -2);
         CHECK.due(16, "joins(4, 0)", x.joins(4, 0), -1);
         CHECK.due(16, "joins(0, 4)", x.joins(0, 4), -1);
@@ -151,6 +153,13 @@ public final class ActsTest {
         CHECK.due(17, "about(8)", x.about(8), 3);
         CHECK.due(17, "undo()", x.undo(), 2);
         CHECK.due(17, "ring(0, 1)", x.ring(0, 1), 11);
+        CHECK.due(17, "about(1), of those who are there", x.about(1), 4);
+        LouderRoom full = Check.room("R00G000110G010210G020310G030410G040510G050610G060710G070810");
+        CHECK.due(17, "home(0) of 8", full.home(0), 7);
+        CHECK.due(17, "about(1)", full.about(1), 35);
+        CHECK.due(17, "ring(6, 2)", full.ring(6, 2), 8);
+        CHECK.due(17, "home(6), the last one", full.home(6), 6);
+        CHECK.due(17, "ring(5, 2)", full.ring(5, 2), 7);
     }
 
     private static void hush() {
@@ -201,16 +210,16 @@ public final class ActsTest {
     private static void rowOfActs() {
         LouderRoom x = Check.room("R00G000910");
         for (int i = 1; i <= 12; i++) {
-            x.voice(0, i < 10 ? i : 1);
+            x.voice(0, 1 + i % 9);
             x.hush();
             CHECK.due(19, "about(8)", x.about(8), Math.min(10, i));
         }
-        int[] voices = {1, 1, 1, 9, 8, 7, 6, 5, 4, 3};
+        int[] voices = {4, 3, 2, 1, 9, 8, 7, 6, 5, 4};
         for (int i = 0; i < 10; i++) {
             CHECK.due(19, "undo()", x.undo(), 9 - i);
             CHECK.due(19, "ring(0, 3)", x.ring(0, 3), voices[i]);
         }
         CHECK.due(19, "undo(), the first are forgotten", x.undo(), -3);
-        CHECK.due(19, "ring(0, 3)", x.ring(0, 3), 3);
+        CHECK.due(19, "ring(0, 3)", x.ring(0, 3), 4);
     }
 }

@@ -22,6 +22,10 @@ public final class HeardTest {
         CHECK.due(26, "overhears(0), as loud as the rest", Check.room("R00G000210G011210").overhears(0), 2);
         CHECK.due(26, "overhears(0), farther", Check.room("R00G000210G020210").overhears(0), 0);
         CHECK.due(26, "overhears(0), 0 by 0", Check.room("R90G000210G090210").overhears(0), 0);
+        CHECK.due(26, "overhears(0), 1 by 0", Check.room("R90G000210G021210").overhears(0), 2);
+        LouderRoom left = Check.room("R90G000210G010290");
+        left.home(1);
+        CHECK.due(26, "overhears(0), they are HOME", left.overhears(0), 0);
         CHECK.due(26, "overhears(0), two alike", Check.room("R90G011210G001210G021210").overhears(0), 6);
         CHECK.due(26, "overhears(0), MUSIC over it", Check.room("R09G000210G010240").overhears(0), 0);
     }
@@ -113,6 +117,16 @@ public final class HeardTest {
     private static void chanceRefused() {
         LouderRoom x = Check.room("R90G000410G010210");
         CHECK.due(30, "chance(2, 3, true)", x.chance(2, 3, true), -1);
+        CHECK.due(30, "chance(0, 5, true)", x.chance(0, 5, true), 1);
+        CHECK.due(20, "rest(0, false), nobody is still any more", x.rest(0, false), 1024);
+        x.voice(1, 9);
+        x.voice(0, 9);
+        CHECK.due(30, "chance(0, 10, true), both are loud", x.chance(0, 10, true), 0);
+        x.eats(0);
+        x.voice(1, 6);
+        CHECK.due(30, "chance(0, 10, true), one is", x.chance(0, 10, true), 1);
+        x.home(1);
+        CHECK.due(30, "chance(0, 10, true), alone", x.chance(0, 10, true), 1);
         CHECK.due(30, "chance(-1, 3, false)", x.chance(-1, 3, false), -1);
         CHECK.due(30, "chance(2, 11, true), UNKNOWN ahead of BAD", x.chance(2, 11, true), -1);
         CHECK.due(30, "chance(0, 11, true)", x.chance(0, 11, true), -2);

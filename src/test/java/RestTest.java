@@ -5,6 +5,7 @@ public final class RestTest {
     public static void main(String[] args) {
         rest();
         restOfMusic();
+        restsThatAreFar();
         tooMany();
         lasts();
         stuffs();
@@ -56,6 +57,23 @@ public final class RestTest {
         CHECK.due(20, "rest(0, false), of RINGS alone", up.rest(0, false), 32);
     }
 
+    /** Found by the Model: RINGS and MUSIC that swing for 40 MINUTES, and for 41, which is no REST. */
+    private static void restsThatAreFar() {
+        far("R62G250281G243331", 6, 1, 40, 4);
+        far("R84G253644G257493", 3, 1, -9, -9);
+        far("R78G055580G105310G310299", 9, 2, 40, 6);
+        far("R73G210270G072530G126266", 8, 2, -9, -9);
+        far("R80G340883G295680G124291", 9, 0, 40, 8);
+        far("R67G137220G157440G106624", 0, 0, -9, -9);
+    }
+
+    private static void far(String text, int music, int from, int minutes, int loud) {
+        LouderRoom x = Check.room(text);
+        x.music(music, true);
+        CHECK.due(20, "rest(" + from + ", true) of " + text, x.rest(from, true), minutes);
+        CHECK.due(20, "rest(" + from + ", false) of " + text, x.rest(from, false), loud);
+    }
+
     private static void tooMany() {
         CHECK.due(21, "tooMany() of nobody", new LouderRoom().tooMany(), -9);
         CHECK.due(21, "tooMany() of eight", Check.room("R00G000890").tooMany(), -9);
@@ -69,6 +87,8 @@ public final class RestTest {
         CHECK.due(21, "about(0), nothing is changed", x.about(0), 2);
         LouderRoom far = Check.room("R00G000110G019110G020110G030110G040110G050110G060110G070910");
         CHECK.due(21, "tooMany(), all 8", far.tooMany(), 8);
+        far.home(7);
+        CHECK.due(21, "tooMany(), that one is gone", far.tooMany(), -9);
     }
 
     private static void lasts() {
@@ -82,6 +102,16 @@ public final class RestTest {
         LouderRoom x = Check.room("R00G000150");
         CHECK.due(22, "lasts() of one PERSON", x.lasts(), 0);
         CHECK.due(22, "ring(0, 3), nothing is changed", x.ring(0, 3), 5);
+        LouderRoom other = Check.room("R00G000950");
+        other.voice(0, 7);
+        CHECK.due(22, "lasts(), from now", other.lasts(), 6);
+        other.music(3, true);
+        CHECK.due(22, "lasts(), MUSIC is over", other.lasts(), 6);
+        other.home(0);
+        CHECK.due(22, "lasts(), all are HOME", other.lasts(), 0);
+        LouderRoom longest = Check.room("R61G434310G123290G478228G101430G140870");
+        longest.music(5, true);
+        CHECK.due(22, "lasts(), found by the Model", longest.lasts(), 40);
     }
 
     private static void stuffs(String text, int cost, int which) {
@@ -128,10 +158,18 @@ public final class RestTest {
         CHECK.due(24, "about(3), nothing is changed", x.about(3), 3);
         x.minute();
         CHECK.due(24, "about(3), it FOLLOWS still", x.about(3), 4);
+        LouderRoom still = Check.room("R09G000890G410230");
+        still.voice(0, 1);
+        CHECK.due(24, "loudest(), too loud by NODDING ones", still.loudest(), -9);
+        still.voice(1, 1);
+        CHECK.due(24, "loudest()", still.loudest(), -9);
+        still.home(1);
+        CHECK.due(24, "loudest(), they are HOME", still.loudest(), 0);
     }
 
     private static void softer() {
         CHECK.due(25, "softer() of nobody", new LouderRoom().softer(), 1);
+        CHECK.due(25, "softer(), 2 by 2 of a NODDING one", Check.room("R00G499210G000710").softer(), -9);
         LouderRoom x = Check.room("R02G000790");
         CHECK.due(25, "softer() of seven", x.softer(), 5);
         CHECK.due(25, "ring(0, 3), nothing is changed", x.ring(0, 3), 9);

@@ -88,6 +88,12 @@ public final class TextTest {
         fault("R/0", 1);
         fault("R:0", 1);
         fault("R0a", 2);
+        fault("000", 0);
+        fault("R00G012:", 7);
+        fault("R00G0123:", 8);
+        fault("R00G01234:", 9);
+        fault("R00S:", 4);
+        fault("R00S1:", 5);
         fault("R00R", 3);
         fault("R00 ", 3);
         fault("R00G012345", -9);
@@ -142,6 +148,8 @@ public final class TextTest {
         CHECK.due(5, "about(8), nothing is changed", x.about(8), 1);
         CHECK.due(5, "again(0), nothing is changed", x.again(0), 2);
         x.minute();
+        x.loudest();
+        x.softer();
         Check.retell(x, "R53G044555");
         CHECK.due(5, "room()", x.room(), 1);
         CHECK.due(5, "about(2)", x.about(2), 5);
