@@ -1,12 +1,14 @@
 /** All promises: long runs of calls, the same for every run of this test, held against the Model. */
 public final class ModelTest {
-    private static final int RUNS = 400, CALLS = 400;
+    /** An object is used for 512 calls at most; telling a ROOM takes 83 of them at most. */
+    private static final int RUNS = 450, CALLS = 512 - 83;
     private static final int[] WILD = {-1, 10, 11, 41, 100, Integer.MAX_VALUE, Integer.MIN_VALUE, -9, 8, 31, 32, 64};
 
     private final Check check;
     private final LouderRoom room = new LouderRoom();
     private final Model model = new Model();
     private long seed;
+    private int calls = 0;
 
     private ModelTest(Check check, int run) {
         this.check = check;
@@ -18,9 +20,10 @@ public final class ModelTest {
         for (int run = 0; run < RUNS; run++) {
             ModelTest test = new ModelTest(check, run);
             test.tell();
-            for (int call = 0; call < CALLS; call++) {
+            while (test.calls <= CALLS) {
                 test.call();
             }
+            check.due(0, "no more than 512 calls in run " + run, test.calls <= 512 ? 1 : 0, 1);
         }
         check.end();
     }
@@ -40,6 +43,7 @@ public final class ModelTest {
     }
 
     private void due(int promise, String call, long got, long want) {
+        calls++;
         check.due(promise, call, got, want);
     }
 
@@ -72,18 +76,28 @@ public final class ModelTest {
         }
     }
 
-    /** Tells ROOMS till one has no FAULT; then now and then one byte of it is another. */
-    private void tell() {
-        for (int i = 0; i < 20; i++) {
-            due(3, "wipe()", room.wipe(), model.wipe());
-            write(text());
-            due(4, "fault()", room.fault(), model.fault());
-            int rings = model.room();
-            due(5, "room()", room.room(), rings);
-            if (rings >= 0) {
-                return;
-            }
+    /** A text without a FAULT, if one comes soon. */
+    private String roomText() {
+        String text = text();
+        for (int i = 0; i < 20 && isFaulty(text); i++) {
+            text = text();
         }
+        return text;
+    }
+
+    private static boolean isFaulty(String text) {
+        Model other = new Model();
+        for (int i = 0; i < text.length(); i++) {
+            other.write(1, text.charAt(i));
+        }
+        return other.fault() != -9;
+    }
+
+    private void tell() {
+        due(3, "wipe()", room.wipe(), model.wipe());
+        write(roomText());
+        due(4, "fault()", room.fault(), model.fault());
+        due(5, "room()", room.room(), model.room());
     }
 
     private void spoil() {
