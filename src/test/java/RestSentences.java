@@ -313,6 +313,7 @@ final class RestSentences {
         s.due("loudest() of eight", Check.room("R05G000810").loudest(), 0);
         s.due("loudest() of nine", Check.room("R00G000910").loudest(), -9);
         s.due("loudest() of nobody", new LouderRoom().loudest(), 9);
+        s.due("loudest() of nine, EATS 1, no MUSIC is softer than 0", Check.room("R10G000990").loudest(), -9);
         for (int e = 0; e <= 4; e++) {
             s.due("loudest() of nine of AGE 9, EATS " + e, Check.room("R" + e + "0G000919").loudest(), -9);
         }
