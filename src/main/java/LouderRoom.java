@@ -814,7 +814,12 @@ public final class LouderRoom {
         }
 
         boolean allHear() {
-            return hearing() == (1 << rings) - 1;
+            for (int i = 0; i < rings; i++) {
+                if (!hears(i)) {
+                    return false;
+                }
+            }
+            return true;
         }
 
         /** Works out what a MINUTE would bring; take() brings it. */
